@@ -805,7 +805,7 @@ public final class LineFields {
             long inverse = 1;
             long square = Math.floorMod(number, PRIME);
             for (int bit = 0; bit < PRIME_BITS; bit++) {
-                if ((PRIME - 2 >> bit & 1) == 1) {
+                if (((PRIME - 2 >> bit) & 1) == 1) {
                     inverse = inverse * square % PRIME;
                 }
                 square = square * square % PRIME;

@@ -1,3 +1,4 @@
+import java.math.BigInteger;
 import java.util.ArrayDeque;
 import java.util.Arrays;
 import java.util.Deque;
@@ -101,12 +102,7 @@ final class Model {
     }
 
     private static long inverseNumber(long n) {
-        for (long i = 1; i < P; i++) {
-            if (Math.floorMod(n * i, P) == 1) {
-                return i;
-            }
-        }
-        throw new ArithmeticException("no inverse");
+        return BigInteger.valueOf(n).modInverse(BigInteger.valueOf(P)).longValue();
     }
 
     private long[] bracketOf(long[] f, long[] g) {

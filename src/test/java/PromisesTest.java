@@ -425,6 +425,11 @@ public final class PromisesTest {
         CHECKS.same("root of x", x.root(5, 7, 2), LineFields.NONE);
         isFlow("root of x", x, 2);
         CHECKS.same("paid", x.count(4), 5 * 48);
+        for (int n : new int[] {2, 5, 7, 11, 13, 17, 4999}) {
+            x.earn(1000);
+            CHECKS.same("root " + n, x.root(0, n, 1), 2);
+            geometric("root " + n, x, 1, over(6, n));
+        }
         for (int n : new int[] {0, -1, 5001, Integer.MIN_VALUE, Integer.MAX_VALUE}) {
             CHECKS.throwing("root " + n, x, ARGUMENT, () -> x.root(0, n, 0));
         }
@@ -609,6 +614,10 @@ public final class PromisesTest {
         CHECKS.same("none is carried out", x.run(), 0);
         CHECKS.same("clears the buffer", x.clearBuffer(), 0);
         CHECKS.same("saves a state all the same", x.count(8), Math.min(6, saved + 1));
+        LineFields exact = withPurse(5, 105);
+        type(exact, "w01>2;s00>0");
+        CHECKS.same("with just what it costs", exact.run(), 2);
+        CHECKS.same("nothing is left", exact.count(1), 0);
         LineFields y = withPurse(5, 9);
         type(y, "b00>0;s00>0");
         CHECKS.same("a cheaper one behind is not carried out", y.run(), 0);
