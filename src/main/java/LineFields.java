@@ -405,18 +405,20 @@ public final class LineFields {
         return carryOut(letter, first, second, to);
     }
 
+    /** Letters stand at the beginning of orders alone, so that each of them tells where one begins. */
     private int carryOutAll() {
         int carriedOut = 0;
-        int start = 0;
-        while (start < buffer.length) {
-            int letter = buffer.codeAt(start);
-            if (now.purse < costOf(unitsOf(letter))) {
-                return carriedOut;
+        for (int place = 0; place < buffer.length; place++) {
+            int letter = buffer.codeAt(place);
+            int digits = Text.digitsOf(letter);
+            if (digits > 0) {
+                if (now.purse < costOf(unitsOf(letter))) {
+                    return carriedOut;
+                }
+                int last = place + digits;
+                carryOut(letter, buffer.slotAt(place + 1), buffer.slotAt(last), buffer.slotAt(last + 2));
+                carriedOut++;
             }
-            int last = start + Text.digitsOf(letter);
-            carryOut(letter, buffer.slotAt(start + 1), buffer.slotAt(last), buffer.slotAt(last + 2));
-            carriedOut++;
-            start = last + 4;
         }
         return carriedOut;
     }
@@ -939,7 +941,7 @@ public final class LineFields {
             addMultiple(out, bracketBW, PRIME - TWENTY_FOURTH);
         }
 
-        /** The first way: the logarithm of what comes when first the exponential of a and then that of b is composed. */
+        /** The first way: the logarithm of what comes when the exponential of a, then that of b is composed. */
         void composedField(int[] a, int[] b, int cut, int[] out) {
             exponential(a, cut, flowA);
             exponential(b, cut, flowB);

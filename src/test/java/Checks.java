@@ -1,3 +1,4 @@
+import java.util.function.IntUnaryOperator;
 import java.util.function.LongSupplier;
 
 /** Counts and prints the answers that are not the ones that are due. */
@@ -21,6 +22,28 @@ final class Checks {
         }
     }
 
+    /** The coefficients of the powers from 2 on; those that are not told are 0. */
+    void isField(String what, LineFields x, int slot, int... coefficients) {
+        same(what + ", field " + slot, row(power -> x.field(slot, power)), rowDue(0, coefficients));
+    }
+
+    void isFlow(String what, LineFields x, int slot, int... coefficients) {
+        same(what + ", flow " + slot, row(power -> x.flow(slot, power)), rowDue(1, coefficients));
+    }
+
+    private static String row(IntUnaryOperator coefficient) {
+        StringBuilder row = new StringBuilder();
+        for (int power = 0; power <= 6; power++) {
+            row.append(coefficient.applyAsInt(power)).append(' ');
+        }
+        return row.toString();
+    }
+
+    private static String rowDue(int ofX, int[] coefficients) {
+        return row(power -> power == 1 ? ofX : power < 2 || power - 2 >= coefficients.length ? 0
+                : Math.floorMod(coefficients[power - 2], Setup.P));
+    }
+
     /** The call throws exactly this exception, and changes nothing that the digest tells. */
     void throwing(String what, LineFields on, Class<? extends RuntimeException> due, LongSupplier call) {
         long before = on.digest();
@@ -32,16 +55,6 @@ final class Checks {
         }
         same(what, got, due.getSimpleName());
         same(what + " changes nothing", on.digest(), before);
-    }
-
-    /** The call saves one state, and undo brings back all that was before it. */
-    void undoable(String what, LineFields on, LongSupplier call) {
-        long before = on.digest();
-        int saved = on.count(8);
-        call.getAsLong();
-        same(what + " saves a state", on.count(8), saved + 1);
-        same(what + " undone leaves", on.undo(), saved);
-        same(what + " undone", on.digest(), before);
     }
 
     void end(String test) {

@@ -2,8 +2,9 @@ import java.util.function.Supplier;
 
 /** Long runs of made-up calls on a LineFields and on a Model; each answer and each digest has to be the same. */
 public final class ModelTest {
-    private static final int RUNS = 120;
-    private static final int CALLS = 500;
+    private static final int RUNS = 240;
+    // each is followed by a digest, and an object is good for 512 calls
+    private static final int CALLS = 250;
     private static final char[] DEEDS = {'b', 's', 'm', 'w', 'p', 'l', 'e', 'c', 'i', 'n', 'r'};
     private static final Checks CHECKS = new Checks();
 

@@ -55,7 +55,7 @@ public final class RulesTest {
         "synchronized", "assert", "instanceof", "static {", "protected ", "@", "System.out", "System.nano",
         "System.current", "Random", "Thread", "String ", "package ", " var ", "yield"};
     private static final int LONGEST_METHOD = 60;
-    private static final int MOST_BYTES = 100_000;
+    private static final int MOST_BYTES = 10_000;
 
     private static final Checks CHECKS = new Checks();
 
@@ -103,7 +103,8 @@ public final class RulesTest {
                 CHECKS.same("private name " + c.getName() + "." + m.getName(), twice ? 1 : 0, 0);
                 CHECKS.same("parameters of " + m.getName(), Math.max(7, m.getParameterCount()), 7);
             }
-            long fields = Arrays.stream(c.getDeclaredFields()).filter(f -> !Modifier.isStatic(f.getModifiers())).count();
+            long fields = Arrays.stream(c.getDeclaredFields()).filter(f -> !Modifier.isStatic(f.getModifiers()))
+                    .count();
             CHECKS.same("fields of " + c.getName(), Math.max(20, fields), 20);
             Arrays.stream(c.getDeclaredFields()).filter(f -> Modifier.isStatic(f.getModifiers()))
                     .forEach(f -> CHECKS.same(f + " is final", Modifier.isFinal(f.getModifiers()) ? 1 : 0, 1));
@@ -154,7 +155,7 @@ public final class RulesTest {
         LineFields x = new LineFields();
         long thread = Thread.currentThread().getId();
         long before = bean.getThreadAllocatedBytes(thread);
-        for (int i = 0; i < 100; i++) {
+        for (int i = 0; i < 10; i++) {
             everyCall(x);
         }
         long bytes = bean.getThreadAllocatedBytes(thread) - before;
