@@ -44,8 +44,8 @@ final class Book {
             if (line.startsWith("#") || line.equals("Snapshots, undo")) {
                 sentences = new ArrayList<>();
                 sections.put(line.replaceFirst("^#+ ", ""), sentences);
-            } else if (!line.isBlank()) {
-                String text = line.replaceFirst("^- ", "").replaceFirst("^`[^`]*\\([^`]*`: ", "");
+            } else if (!line.isBlank() && !line.startsWith("```") && !line.equals("}")) {
+                String text = line.strip().replaceFirst("^- ", "").replaceFirst("^`[^`]*\\([^`]*`: ", "");
                 sentences.addAll(List.of(text.split("(?<=\\.)\\s+(?=[A-Z(])")));
             }
         }
@@ -56,9 +56,14 @@ final class Book {
         checks.same("the document has \"" + title + "\"", sections.containsKey(title) ? 1 : 0, 1);
     }
 
+    /** All sentences of the section; where it is code, all its lines. */
+    List<String> sentences() {
+        return sections.getOrDefault(section, List.of());
+    }
+
     /** Names a sentence of the section by its first words, or by all of them. */
     void sentence(String words) {
-        List<String> found = new ArrayList<>(sections.getOrDefault(section, List.of()));
+        List<String> found = new ArrayList<>(sentences());
         found.removeIf(s -> !s.startsWith(words));
         checks.same("sentences of \"" + section + "\" that begin with \"" + words + "\"", found.size(), 1);
         sentence = found.isEmpty() ? words : found.get(0);

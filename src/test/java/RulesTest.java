@@ -8,59 +8,25 @@ import java.nio.file.Path;
 import java.util.Arrays;
 import java.util.List;
 import java.util.Set;
-import java.util.TreeSet;
+import java.util.regex.Matcher;
+import java.util.regex.Pattern;
 import java.util.stream.Collectors;
 
-/** The public face, and those rules of LANGUAGE.md that reflection, a text search or a count of bytes can tell. */
+/** Those rules of LANGUAGE.md that reflection, a text search or a count of bytes can tell. */
 public final class RulesTest {
-    private static final Path SOURCE = Path.of("src/main/java/LineFields.java");
-    private static final String I = "IndexOutOfBoundsException";
-    private static final String A = "IllegalArgumentException";
-    private static final String S = "IllegalStateException";
-    private static final String[] FACE = {
-        "int cut(int) " + A,
-        "int setField(int, int, int) " + I,
-        "int setFlow(int, int, int) " + I,
-        "int earn(int) " + A + " " + S,
-        "int bracket(int, int, int) " + I + " " + S,
-        "int sum(int, int, int) " + I + " " + S,
-        "int scale(int, int, int) " + I + " " + S,
-        "int byBrackets(int, int, int) " + I + " " + S,
-        "int push(int, int, int) " + I + " " + S,
-        "int log(int, int) " + I + " " + S,
-        "int exp(int, int) " + I + " " + S,
-        "int compose(int, int, int) " + I + " " + S,
-        "int invert(int, int) " + I + " " + S,
-        "int power(int, int, int) " + I + " " + A + " " + S,
-        "int root(int, int, int) " + I + " " + A + " " + S,
-        "int append(int) " + A + " " + S,
-        "int clearBuffer()",
-        "int firstError()",
-        "int run() " + A,
-        "int take(int) " + I,
-        "int restore(int) " + I + " " + S,
-        "int undo() " + S,
-        "int field(int, int) " + I,
-        "int flow(int, int) " + I,
-        "int value(int, int, int) " + I + " " + A,
-        "int clash(int, int) " + I,
-        "int apart(int, int) " + I,
-        "int differs(int, int, int) " + I + " " + A,
-        "int lacks(int) " + A,
-        "int count(int) " + A,
-        "double density()",
-        "long digest()",
-    };
+    static final Path SOURCE = Path.of("src/main/java/LineFields.java");
     private static final String[] FORBIDDEN = {"Double.", "Float.", "Exact", "->", "::", "try ", "catch", "finally",
         "synchronized", "assert", "instanceof", "static {", "protected ", "@", "System.out", "System.nano",
         "System.current", "Random", "Thread", "String ", "package ", " var ", "yield"};
+    private static final Pattern LIBRARY =
+            Pattern.compile("\\b(?:Math|Arrays|System|Integer|Long|Character|Boolean|Objects|List)\\.\\w+");
+    private static final Set<String> LISTED = Set.of("Math.floorMod", "Math.max", "Arrays.fill", "System.arraycopy");
     private static final int LONGEST_METHOD = 60;
     private static final int MOST_BYTES = 10_000;
 
     private static final Checks CHECKS = new Checks();
 
     public static void main(String[] args) throws IOException {
-        face();
         names();
         text(Files.readString(SOURCE));
         lengths(Files.readAllLines(SOURCE));
@@ -68,35 +34,9 @@ public final class RulesTest {
         CHECKS.end("RulesTest");
     }
 
-    private static String told(Method m) {
-        String takes = Arrays.stream(m.getParameterTypes()).map(Class::getName).collect(Collectors.joining(", "));
-        String throwing = Arrays.stream(m.getExceptionTypes()).map(t -> " " + t.getSimpleName())
-                .collect(Collectors.joining());
-        return m.getReturnType() + " " + m.getName() + "(" + takes + ")" + throwing;
-    }
-
-    private static void face() {
-        Set<String> methods = new TreeSet<>();
-        for (Method m : LineFields.class.getDeclaredMethods()) {
-            if (!Modifier.isPrivate(m.getModifiers())) {
-                methods.add(told(m));
-                CHECKS.same(m.getName() + " is public alone", Modifier.toString(m.getModifiers()), "public");
-            }
-        }
-        CHECKS.same("the methods", methods.toString(), new TreeSet<>(List.of(FACE)).toString());
-        String fields = Arrays.stream(LineFields.class.getDeclaredFields())
-                .filter(f -> !Modifier.isPrivate(f.getModifiers())).map(Object::toString)
-                .collect(Collectors.joining());
-        CHECKS.same("the constants", fields, "public static final int LineFields.NONE");
-        String made = Arrays.stream(LineFields.class.getDeclaredConstructors()).map(Object::toString)
-                .collect(Collectors.joining());
-        CHECKS.same("the constructor", made, "public LineFields()");
-        CHECKS.same("the class", Modifier.toString(LineFields.class.getModifiers()), "public final");
-    }
-
     private static void names() {
-        Set<String> open = Arrays.stream(FACE).map(f -> f.substring(f.indexOf(' ') + 1, f.indexOf('(')))
-                .collect(Collectors.toSet());
+        Set<String> open = Arrays.stream(LineFields.class.getDeclaredMethods())
+                .filter(m -> Modifier.isPublic(m.getModifiers())).map(Method::getName).collect(Collectors.toSet());
         for (Class<?> c : classes()) {
             for (Method m : c.getDeclaredMethods()) {
                 boolean twice = Modifier.isPrivate(m.getModifiers()) && open.contains(m.getName());
@@ -127,6 +67,10 @@ public final class RulesTest {
         }
         String imports = source.lines().filter(l -> l.startsWith("import")).collect(Collectors.joining());
         CHECKS.same("imports", imports, "import java.util.Arrays;");
+        Matcher m = LIBRARY.matcher(source);
+        while (m.find()) {
+            CHECKS.same("the library's " + m.group(), LISTED.contains(m.group()) ? 1 : 0, 1);
+        }
         CHECKS.same("plain signs alone", source.chars().filter(c -> c > 126 || c < 32 && c != '\n').count(), 0);
     }
 

@@ -9,14 +9,13 @@ public final class TermsTest {
     private static final Class<IndexOutOfBoundsException> INDEX = IndexOutOfBoundsException.class;
     private static final Class<IllegalArgumentException> ARGUMENT = IllegalArgumentException.class;
     private static final Class<IllegalStateException> STATE = IllegalStateException.class;
-    private static final Set<String> SECTIONS = Set.of("Terms", "Fields and flows", "Reckoning", "The second way",
+    static final Set<String> SECTIONS = Set.of("Terms", "Fields and flows", "Reckoning", "The second way",
             "Work", "Input text", "Snapshots, undo", "Exceptions");
     private static final String LETTERS = "bscwpeli";
 
     private static final Book BOOK = new Book();
 
     public static void main(String[] args) {
-        use();
         numbers();
         quotients();
         greatestCoefficients();
@@ -46,22 +45,7 @@ public final class TermsTest {
         BOOK.end("TermsTest", SECTIONS::contains);
     }
 
-    // ---- what it is, and numbers
-
-    private static void use() {
-        BOOK.section("What it is");
-        BOOK.sentence("An object is used for at most 512 calls");
-        LineFields x = new LineFields();
-        Model m = new Model();
-        for (int i = 0; i < 255; i++) {
-            x.setField(i % 6, 2 + i % 4, i);
-            m.set(false, i % 6, 2 + i % 4, i);
-            x.setFlow(i % 6, 2 + i % 4, 7 * i);
-            m.set(true, i % 6, 2 + i % 4, 7 * i);
-        }
-        BOOK.same("the 511th call", x.undo(), m.undo());
-        BOOK.same("the 512th call", x.digest(), m.digest());
-    }
+    // ---- numbers
 
     private static void numbers() {
         BOOK.section("Terms");
